@@ -59,6 +59,7 @@ public final class PromiseTest {
         tales();
         may();
         fewest();
+        deadEnds();
         gladdest();
         sure();
         alike();
@@ -137,6 +138,10 @@ public final class PromiseTest {
         due("take", x.of(1, 13), 999);
         due("glad", x.of(0, 22), 12);
         due("not glad", x.of(0, 21), 0);
+        due("not glad in 0", x.of(0, 20), 0);
+        house(x, "glad 0 0 3;glad 1 3 4");
+        due("glad in 0", x.of(0, 20), 3);
+        due("glad in 3", x.of(1, 23), 4);
         int[] none = {-1, 2, 9, 13, 19, 23, 30};
         for (int what : none) {
             due("what " + what, x.of(0, what), -1);
@@ -291,7 +296,17 @@ public final class PromiseTest {
         barred(x, "c>0|d<0|a<1", 0b0101);
         barred(x, "r=1", 0);
         due("r=1 at 1", x.may(1), 0);
-        due("two bars", house(x, "bar a=1;bar b=1"), 3);
+        due("a state is never below 0", house(x, "bar a<0"), 3);
+        due("so no way is barred", x.may(0), 4);
+        due("nor ever not", house(x, "bar !a<0"), 4);
+        due("so all are", x.may(0), 0);
+        x = meter(0, 2, 0, 2);
+        readings(x, 0, 0, 0);
+        due("deep on the right", house(x, "bar a=1|(a=2|(a=3|(a=4|(b=0&a=0))))|!r=0"), 0);
+        due("a in 0 and b in 1 is left", x.may(0), 1);
+        due("a in 0 and b in 1 is left", x.fits(0, 2), 1);
+        due("none is left", x.may(1), 0);
+        due("two bars", house(x, "bar a=1;bar b=1"), 1);
         due("either bars", x.may(0), 1);
     }
 
@@ -404,12 +419,34 @@ public final class PromiseTest {
         house(x, "take 0 1 5;take 1 1 5;bar a=1&(r=2|r=0)");
         readings(x, 0, 5, 5, 5);
         row("no change pays", 0, new int[] {2, 2, 2}, x);
+        house(x, "take 0 1 5;take 1 1 5;bar a=1");
+        readings(x, 0, 0, 5, 0);
+        row("off at first", 2, new int[] {0, 2, 0}, x);
         due("reading 3", x.fewest(3), -1);
         due("reading -2", x.fewest(-2), -1);
         readings(x, 0, 5, 6);
         due("no tale", x.fewest(-1), NO_TALE);
         due("no tale", x.fewest(1), NO_TALE);
         due("no reading before no tale", x.fewest(2), -1);
+    }
+
+    /** A way that fits, with no tale on from it, is no begin of a tale, however cheap it is. */
+    private static void deadEnds() {
+        now = "promises 12 to 17, dead ends";
+        CellarMeter x = meter(2, 4);
+        house(x, "bar a=3&r=0;bar (a=1|a=0)&r=2;bar !(a=0)&r=3;glad 0 0 50;take 0 0 0");
+        readings(x, 0, 0, 0, 0, 0);
+        int[] fewest = {2, 2, 3, 0};
+        int[] gladdest = {1, 2, 3, 0};
+        for (int r = 0; r < 4; r++) {
+            due("fewest " + r, x.fewest(r), fewest[r]);
+            due("gladdest " + r, x.gladdest(r), gladdest[r]);
+        }
+        due("ways", x.tales(), 3);
+        due("sure 0", x.sure(0, 0), 1);
+        due("on 3", x.sure(3, 1), 0);
+        due("changes", x.fewest(-1), 2);
+        due("glad", x.gladdest(-1), 50);
     }
 
     private static void row(String what, int changes, int[] ways, CellarMeter x) {
@@ -436,6 +473,14 @@ public final class PromiseTest {
         house(x, "take 0 1 5;take 1 1 5;take 1 2 5");
         due("none is gladder", x.gladdest(-1), 0);
         due("the first as a row", x.gladdest(0) * 100 + x.gladdest(1) * 10 + x.gladdest(2), 111);
+        house(x, "glad 0 0 7;glad 1 0 2;glad 1 1 2;bar b=1&r=0;bar b=0&r=2");
+        readings(x, 0, 0, 0, 0);
+        due("off is glad", x.gladdest(-1), 27);
+        due("off is glad at 0", x.gladdest(0), 0);
+        due("a step on", x.gladdest(1), 0);
+        due("a step on later", x.gladdest(2), 2);
+        readings(x, 0, 5, 5, 5);
+        house(x, "take 0 1 5;take 1 1 5;take 1 2 5");
         due("reading 3", x.gladdest(3), -1);
         due("reading -2", x.gladdest(-2), -1);
         readings(x, 0, 5, 6);
@@ -479,7 +524,13 @@ public final class PromiseTest {
         house(x, "glad 0 1 4;glad 2 1 4");
         due("as glad", x.alike(), 1);
         house(x, "bar b=1;bar r=0&!(d=3)");
+        due("two stand in bars", x.alike(), 1);
+        house(x, "bar a=7");
         due("one stands in a bar", x.alike(), 1);
+        house(x, "bar d=7");
+        due("one of another kind does", x.alike(), 3);
+        house(x, "bar (r<3)");
+        due("none does", x.alike(), 3);
         house(x, "take 0 2 5;take 0 3 5");
         due("states that are not", x.alike(), 3);
         due("none", meter(0, 2, 0, 3).alike(), 0);
@@ -512,6 +563,12 @@ public final class PromiseTest {
         house(x, "take 0 1 5;take 0 2 9");
         readings(x, 0, 9, 12);
         due("held in 2", x.secret(), 3);
+        readings(x, 0, 10);
+        due("one", x.secret(), 1);
+        x = meter(2, 3);
+        house(x, "take 0 1 20;take 0 2 40");
+        readings(x, 0, 0, 40);
+        due("what does not follow makes no tale", x.secret(), 20);
     }
 
     private static void part() {
@@ -563,6 +620,16 @@ public final class PromiseTest {
         due("no tale", x.wires(0), 0);
         readings(x, 1, 5, 6, 7);
         due("too many", x.wires(0), -3);
+        readings(x, 0, 5);
+        readings(x, 1, 7);
+        due("one reading that none gives", x.wires(0), 0);
+        x = meter(6, 3, 0, 3);
+        house(x, "take 0 1 5;take 0 2 7;take 1 1 7;take 1 2 5");
+        readings(x, 0, 12, 12);
+        readings(x, 1, 5, 7);
+        due("what does not follow makes no tale", x.wires(0), 0);
+        readings(x, 1, 7, 7);
+        due("either one, in another tale", x.wires(0), 2);
     }
 
     private static void coarse() {
@@ -583,6 +650,12 @@ public final class PromiseTest {
         due("61 is too coarse", x.coarse(0, 0), NO_TALE);
         house(x, "take 0 1 59");
         due("60", x.coarse(0, 0), 60);
+        x = meter(0, 3);
+        house(x, "take 0 1 5;take 0 2 8;give 3");
+        readings(x, 0, 5);
+        due("on in two states", x.coarse(0, 0), 2);
+        readings(x, 0, 5, 20);
+        due("there has to be a tale", x.coarse(0, 0), 7);
         x = meter(6, 2);
         readings(x, 0, 0);
         due("never off", x.coarse(0, 0), NO_TALE);
@@ -772,8 +845,9 @@ public final class PromiseTest {
         x.item(0, 1, 7);
         x.tape(0, 2, -1);
         due("a refusal changes nothing", x.read(0, 1), 7);
+        x.item(0, 0, 7);
         x.tape(0, 2, 2);
-        due("a new row is 0", x.read(0, 1), 0);
+        due("a new row is 0", x.read(0, 0) + x.read(0, 1), 0);
     }
 
     private static void itemAndRead() {
