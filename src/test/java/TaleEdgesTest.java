@@ -904,5 +904,8 @@ public final class TaleEdgesTest extends Edges {
             refused("ahead of no tale", TaleEdgesTest::withoutTale, x -> x.coarse(0, t), NONE);
         }
         refused("no tale", TaleEdgesTest::withoutTale, x -> x.coarse(0, 0), NO_TALE);
+        CellarMeter x = withAllReadings();
+        due("reading 11: 3 and 4 are both given at 3", x.coarse(11, 0), 3);
+        due("reading 12", x.coarse(12, 0), NONE);
     }
 }

@@ -212,6 +212,25 @@ public final class ThingEdgesTest extends Edges {
         }
     }
 
+    @Says(promise = 3, value = "NONE.", terms = "THINGS 0 .. 3,")
+    private static void theFourthThingAndAFifth() {
+        CellarMeter x = things(0, 2, 0, 2, 0, 2, 4, 4);
+        holds(x, "take 3 3 5;glad 3 3 6;give 5");
+        readings(x, 0, 0);
+        int[] fourth = {x.of(3, 0), x.of(3, 1), x.of(3, 13), x.of(3, 23), x.follows(3, 1, 3), x.part(3, 1),
+            x.coarse(0, 3), x.taken(3, 1), x.act(3, 0, 1), x.sure(0, 1)};
+        int[] due = {4, 4, 5, 6, 0, 5, 1, 4, -4, 15};
+        for (int i = 0; i < due.length; i++) {
+            due("call " + i + " of thing 3", fourth[i], due[i]);
+        }
+        int[] fifth = {x.of(4, 0), x.of(4, 13), x.follows(4, 0, 0), x.part(4, 0), x.coarse(0, 4)};
+        for (int i = 0; i < fifth.length; i++) {
+            due("call " + i + " of thing 4", fifth[i], NONE);
+        }
+        due("taken", x.taken(4, 0), NOTHING);
+        due("act", x.act(4, 0, 1), 0);
+    }
+
     @Says(promise = 3, value = "10 and k what it TAKES in STATE k,",
         terms = {"TAKE,", "of THING t in STATE k: the n of its last such CLAUSE (0 without)."})
     private static void takes() {

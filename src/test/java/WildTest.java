@@ -10,7 +10,7 @@ import java.util.List;
  * every answer is the same.
  */
 public final class WildTest {
-    private static final int RUNS = 300, CALLS = 500;
+    private static final int RUNS = 300, CALLS = 460;
     private static final int[] WILD = {
         Integer.MIN_VALUE, Integer.MIN_VALUE + 1, -1000003, -100, -14, -5, -2, -1, 0, 1, 2, 3, 4, 5, 6, 7, 8, 9, 10, 11,
         12, 13, 14, 19, 20, 21, 22, 23, 24, 30, 31, 32, 33, 48, 59, 60, 61, 63, 64, 65, 99, 100, 101, 127, 128, 255, 256,
